@@ -314,10 +314,12 @@ public final class TableTongue {
     static final int EVENTS = 21;
     static final int LENGTH_LIMIT = 1000;
 
-    private static final String LATENT_NAMES =
-        "and break do else elseif end false for function if in local nil not or repeat return then"
-            + " true until while __index __newindex __call __add __sub __mul __idiv __mod __band"
-            + " __bor __bxor __shl __shr __unm __bnot __concat __len __eq __lt __le __gc __mode ";
+    private static final String FIRST_WORDS = "and break do else elseif end false for function if in ";
+    private static final String LAST_WORDS = "local nil not or repeat return then true until while ";
+    private static final String FIRST_EVENTS =
+        "__index __newindex __call __add __sub __mul __idiv __mod __band __bor __bxor __shl __shr ";
+    private static final String LAST_EVENTS =
+        "__unm __bnot __concat __len __eq __lt __le __gc __mode ";
     private static final int MADE_LIMIT = 800;
     private static final int MADE_BYTES_LIMIT = 24000;
     private static final int NUMBER_LIMIT = 3000;
@@ -349,8 +351,16 @@ public final class TableTongue {
     private int rowLength;
 
     Strings() {
-      for (int i = 0; i < LATENT_NAMES.length(); i++) {
-        char c = LATENT_NAMES.charAt(i);
+      keepNames(FIRST_WORDS);
+      keepNames(LAST_WORDS);
+      keepNames(FIRST_EVENTS);
+      keepNames(LAST_EVENTS);
+    }
+
+    /** Each of the names, a blank behind it, becomes a string that is not counted yet. */
+    private void keepNames(String names) {
+      for (int i = 0; i < names.length(); i++) {
+        char c = names.charAt(i);
         if (c == ' ') {
           keepLatent();
           rowLength = 0;
@@ -2758,7 +2768,7 @@ public final class TableTongue {
     static final int VALUE = -2;
     static final int FULL = -3;
 
-    // In the order of NAMES.
+    // In the order of the names.
     static final int NEXT = 5;
     static final int PCALL = 15;
     static final int COLLECT = 17;
@@ -2768,11 +2778,13 @@ public final class TableTongue {
     static final int PART_RUNNING = 31;
     static final int IPAIRS_STEP = 32;
 
-    private static final String NAMES =
-        "print type tostring tonumber next pairs ipairs rawget rawset rawequal rawlen getmetatable"
-            + " setmetatable error pcall select collect list.insert list.remove list.concat"
-            + " list.pack list.unpack text.sub text.byte text.char text.rep part.new part.go"
-            + " part.stop part.state part.running ipairs ";
+    private static final String FIRST_NAMES =
+        "print type tostring tonumber next pairs ipairs rawget rawset rawequal rawlen getmetatable ";
+    private static final String MORE_NAMES =
+        "setmetatable error pcall select collect list.insert list.remove list.concat list.pack ";
+    private static final String LAST_NAMES =
+        "list.unpack text.sub text.byte text.char text.rep part.new part.go part.stop part.state ";
+    private static final String RUNNING_NAME = "part.running ipairs ";
 
     private final Strings strings;
     private final Tables tables;
@@ -2798,21 +2810,30 @@ public final class TableTongue {
       this.tables = tables;
       this.objects = objects;
       this.gathering = gathering;
-      int start = 0;
-      int n = 1;
-      for (int i = 0; i < NAMES.length() && n <= IPAIRS_STEP; i++) {
-        if (NAMES.charAt(i) == ' ') {
-          String name = NAMES.substring(start, i);
-          names[n] = latent(name);
-          keys[n] = fixed(name.substring(name.indexOf('.') + 1));
-          start = i + 1;
-          n++;
-        }
-      }
+      int named = keepNames(FIRST_NAMES, 0);
+      named = keepNames(MORE_NAMES, named);
+      named = keepNames(LAST_NAMES, named);
+      keepNames(RUNNING_NAME, named);
       shelves[1] = fixed("list");
       shelves[2] = fixed("text");
       shelves[3] = fixed("part");
       packedKey = fixed("n");
+    }
+
+    /** The names of those behind so many, a blank behind each: how many are named then. */
+    private int keepNames(String all, int before) {
+      int named = before;
+      int start = 0;
+      for (int i = 0; i < all.length() && named < IPAIRS_STEP; i++) {
+        if (all.charAt(i) == ' ') {
+          String name = all.substring(start, i);
+          named++;
+          names[named] = latent(name);
+          keys[named] = fixed(name.substring(name.indexOf('.') + 1));
+          start = i + 1;
+        }
+      }
+      return named;
     }
 
     private int latent(String name) {
