@@ -137,8 +137,8 @@ public final class BuiltInTest {
     Bench.gives("local a, b = pcall(function() local x = nil + 1 end) return a, b",
         "false, \"1: arithmetic on nil\"");
     Bench.gives("return select('#', pcall(function() end))", "1");
-    Bench.gives("local t = setmetatable({}, {__call = pcall}) local n, e = t() return n, e",
-        "false, \"1: stack overflow\"");
+    Bench.gives("local t = setmetatable({}, {__call = pcall}) local r = {t()} "
+        + "return #r, r[18], r[19], r[20]", "20, true, false, \"1: stack overflow\"");
   }
 
   private static void selecting() {
