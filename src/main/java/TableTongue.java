@@ -9,6 +9,7 @@ public final class TableTongue {
 
   private static final int TEXT_LIMIT = 6000;
   private static final int STEP_LIMIT = 3000;
+  private static final int COUNT_LIMIT = 2147483647;
 
   // Kinds of values; a CELL stands only in the place of a local that a function has captured.
   private static final int NIL = 0;
@@ -221,7 +222,7 @@ public final class TableTongue {
   }
 
   public int outputs() {
-    return compiled ? (int) Math.min(machine.library.printed, Integer.MAX_VALUE) : 0;
+    return compiled ? (int) Math.min(machine.library.printed, COUNT_LIMIT) : 0;
   }
 
   public int output(int i) throws IndexOutOfBoundsException {
@@ -424,9 +425,9 @@ public final class TableTongue {
     }
 
     void putPiece(int string, int from, int end) {
-      for (int i = from; i < end; i++) {
-        put(byteOf(string, i));
-      }
+      int n = Math.max(Math.min(end - from, row.length - rowLength), 0);
+      System.arraycopy(pool, starts[string] + from, row, rowLength, n);
+      rowLength += n;
     }
 
     void putString(int string) {
@@ -649,6 +650,7 @@ public final class TableTongue {
     private static final String SINGLES = "+-*%&|~<>=#(){}[];:,.";
     private static final int NAME_LIMIT = 30;
     private static final int QUOTED_LIMIT = 200;
+    private static final long WHOLE_LIMIT = 9223372036854775807L;
 
     private final byte[] text;
     private final Strings strings;
@@ -671,17 +673,16 @@ public final class TableTongue {
       line = 1;
       number = 0;
       type = END_OF_TEXT;
-      scan();
     }
 
     void stop() {
       type = STOPPED;
     }
 
-    /** To the next token. */
-    void scan() {
+    /** To the next token: what it is by its first byte, a sign being BAD so far. */
+    int begin() {
       if (type == STOPPED) {
-        return;
+        return STOPPED;
       }
       int next = behindBlanks(end);
       for (int i = end; i < next; i++) {
@@ -693,19 +694,17 @@ public final class TableTongue {
       end = next;
       if (place >= size) {
         type = END_OF_TEXT;
-        return;
+        return type;
       }
       number++;
       int c = text[place];
       if (isLetter(c)) {
-        scanName();
-      } else if (isDigit(c)) {
-        scanNumber();
-      } else if (c == '"' || c == '\'') {
-        scanQuoted(c);
-      } else {
-        scanSign(c);
+        return NAME;
       }
+      if (isDigit(c)) {
+        return NUMBER;
+      }
+      return c == '"' || c == '\'' ? QUOTED : BAD;
     }
 
     /** Whether the sign = stands behind this token. */
@@ -753,7 +752,7 @@ public final class TableTongue {
       return c >= 'A' && c <= 'F' ? c - 'A' + 10 : NONE;
     }
 
-    private void scanName() {
+    void scanName() {
       int i = place;
       strings.begin();
       while (i < size && (isLetter(text[i]) || isDigit(text[i]))) {
@@ -772,7 +771,7 @@ public final class TableTongue {
       }
     }
 
-    private void scanNumber() {
+    void scanNumber() {
       boolean hex = text[place] == '0' && byteAt(place + 1) == 'x';
       int first = hex ? place + 2 : place;
       int i = first;
@@ -783,7 +782,7 @@ public final class TableTongue {
         if (hex) {
           value = value << 4 | d;
         } else {
-          good &= value <= (Long.MAX_VALUE - d) / 10;
+          good &= value <= (WHOLE_LIMIT - d) / 10;
           value = value * 10 + d;
         }
         i++;
@@ -795,7 +794,8 @@ public final class TableTongue {
       type = good ? NUMBER : BAD;
     }
 
-    private void scanQuoted(int quote) {
+    void scanQuoted() {
+      int quote = text[place];
       int i = place + 1;
       strings.begin();
       while (i < size && text[i] != quote && text[i] != 10) {
@@ -840,7 +840,8 @@ public final class TableTongue {
       return told > 255 ? 0 : n;
     }
 
-    private void scanSign(int c) {
+    void scanSign() {
+      int c = text[place];
       int next = byteAt(place + 1);
       int pair = pairOf(c, next);
       if (c == '.' && next == '.' && byteAt(place + 2) == '.') {
@@ -1171,6 +1172,7 @@ public final class TableTongue {
       program.dots[0] = true;
       scopes.enter(0);
       tokens.open(bytes);
+      next();
       emit(OP_STEP, 0, 0, 0);
       block(1);
       if (tokens.type != Tokens.END_OF_TEXT) {
@@ -1201,7 +1203,22 @@ public final class TableTongue {
       if (tokens.number > Program.TOKEN_LIMIT && tokens.type != Tokens.END_OF_TEXT) {
         refuse(3);
       }
-      tokens.scan();
+      switch (tokens.begin()) {
+        case Tokens.NAME:
+          tokens.scanName();
+          break;
+        case Tokens.NUMBER:
+          tokens.scanNumber();
+          break;
+        case Tokens.QUOTED:
+          tokens.scanQuoted();
+          break;
+        case Tokens.BAD:
+          tokens.scanSign();
+          break;
+        default:
+          break;
+      }
     }
 
     private void expect(int type) {
@@ -1432,14 +1449,12 @@ public final class TableTongue {
       return past;
     }
 
-    /** A name of a new local, not known yet. */
+    /** Here is a name of a new local, not known yet. */
     private void newName() {
       if (tokens.type != Tokens.NAME) {
         refuse(2);
       } else if (!scopes.hide((int) tokens.value)) {
         refuse(3);
-      } else {
-        next();
       }
     }
 
@@ -1448,6 +1463,7 @@ public final class TableTongue {
       for (int i = 0; i <= Program.LOCAL_LIMIT && tokens.type == Tokens.COMMA; i++) {
         next();
         newName();
+        next();
       }
     }
 
@@ -1456,6 +1472,7 @@ public final class TableTongue {
       int first = scopes.active;
       next();
       newName();
+      next();
       if (tokens.type == Tokens.ASSIGN) {
         countingFor(depth, line, first);
       } else {
@@ -1530,6 +1547,7 @@ public final class TableTongue {
       next();
       if (take(Tokens.FUNCTION_WORD)) {
         newName();
+        next();
         push(OP_NILS, 1, 0, 1);
         scopes.reveal(first, height);
         body(depth, false);
@@ -1537,6 +1555,7 @@ public final class TableTongue {
         return;
       }
       newName();
+      next();
       moreNames();
       int names = scopes.active - first;
       int line = tokens.line;
@@ -1594,18 +1613,19 @@ public final class TableTongue {
       int line = tokens.line;
       next();
       keyName();
+      next();
       tailOp = OP_INDEX;
       tailIndex = scopes.height() - 2;
       tailLine = line;
     }
 
+    /** Here is a name as a key. */
     private void keyName() {
-      if (tokens.type != Tokens.NAME) {
+      if (tokens.type == Tokens.NAME) {
+        push(OP_STRING, (int) tokens.value, tokens.line, 1);
+      } else {
         refuse(2);
-        return;
       }
-      push(OP_STRING, (int) tokens.value, tokens.line, 1);
-      next();
     }
 
     /** Reads what the chain so far ends with. */
@@ -1654,6 +1674,7 @@ public final class TableTongue {
           next();
           push(OP_COPY, 0, line, 1);
           keyName();
+          next();
           push(OP_INDEX, 0, line, -1);
           push(OP_SWAP, 0, line, 0);
           given(scopes.height() - 2, depth);
@@ -1987,6 +2008,7 @@ public final class TableTongue {
         expect(Tokens.CLOSE_SQUARE);
       } else {
         keyName();
+        next();
       }
       expect(Tokens.ASSIGN);
       expression(0, depth + 2);
@@ -2039,18 +2061,21 @@ public final class TableTongue {
     }
 
     private void parameters(int f) {
-      if (tokens.type == Tokens.NAME) {
+      boolean dots = tokens.type == Tokens.THREE_DOTS;
+      boolean more = tokens.type == Tokens.NAME;
+      for (int i = 0; i <= Program.LOCAL_LIMIT && more; i++) {
         newName();
-        for (int i = 0; i <= Program.LOCAL_LIMIT && tokens.type == Tokens.COMMA; i++) {
+        next();
+        more = tokens.type == Tokens.COMMA;
+        if (more) {
           next();
-          if (take(Tokens.THREE_DOTS)) {
-            program.dots[f] = true;
-            return;
-          }
-          newName();
+          dots = tokens.type == Tokens.THREE_DOTS;
+          more = !dots;
         }
-      } else if (take(Tokens.THREE_DOTS)) {
+      }
+      if (dots) {
         program.dots[f] = true;
+        next();
       }
     }
   }
@@ -2413,8 +2438,11 @@ public final class TableTongue {
     }
 
     void pushNils(int n) {
+      ensure(n);
       for (int i = 0; i < n; i++) {
-        push(NIL, 0);
+        kinds[top] = NIL;
+        values[top] = 0;
+        top++;
       }
     }
 
@@ -2552,7 +2580,7 @@ public final class TableTongue {
     }
 
     void countLastAct() {
-      if (lastActs < Integer.MAX_VALUE) {
+      if (lastActs < COUNT_LIMIT) {
         lastActs++;
       }
     }
@@ -2684,11 +2712,14 @@ public final class TableTongue {
         return;
       }
       for (int i = 0; i < p.top; i++) {
-        if (p.kinds[i] == CELL) {
-          reachCell((int) p.values[i]);
-        } else {
-          reach(p.kinds[i], p.values[i]);
+        int kind = p.kinds[i];
+        long value = p.values[i];
+        if (kind == CELL) {
+          int cell = (int) value;
+          kind = objects.cellKinds[cell];
+          value = objects.cellValues[cell];
         }
+        reach(kind, value);
       }
       for (int i = 1; i <= p.depth; i++) {
         if (p.modes[i] == Part.TEXT_FRAME) {
@@ -3760,7 +3791,7 @@ public final class TableTongue {
       int d = p.depth;
       int start = p.starts[d];
       p.top = start;
-      while (gathering.actCount > p.bases[d]) {
+      for (int i = gathering.actCount; i > p.bases[d]; i--) {
         int table = gathering.takeAct();
         int h = event(TABLE, table, EVENT_GC);
         if (tables.valueKinds[h] == FUNCTION) {
