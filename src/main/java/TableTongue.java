@@ -3477,6 +3477,7 @@ public final class TableTongue {
     private static final int ACCESS = 12;
     private static final int WORK = 13;
     private static final int FLOW = 14;
+    private static final int OPERATE = 15;
 
     private final Program program;
     private final Strings strings;
@@ -3598,7 +3599,7 @@ public final class TableTongue {
       p.nexts[d] = at + 1;
       int op = program.ops[at];
       if (op >= OP_ADD) {
-        return FLOW + 1;
+        return OPERATE;
       }
       return op < OP_INDEX ? ACCESS : op < OP_JUMP ? WORK : FLOW;
     }
